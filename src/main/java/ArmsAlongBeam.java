@@ -450,7 +450,7 @@ public final class ArmsAlongBeam {
         }
 
         int kindOf(int arm) {
-            return hasArm(arm) ? kinds[arm] : 0;
+            return arm >= 0 && arm < kinds.length ? kinds[arm] : 0;
         }
 
         int reachOf(int arm) {
@@ -531,7 +531,7 @@ public final class ArmsAlongBeam {
 
         /** An HOUR goes by whether the STEP can be or not. */
         boolean tryStep(int arm, int hand, int joint) {
-            boolean can = hasArm(arm) && isHand(hand) && isJoint(joint) && canGo(arm, hand, joint);
+            boolean can = hasArm(arm) && isHand(hand) && hasBit(goesTo(arm, hand), joint);
             if (can) {
                 putHand(arm, hand, joint);
             }
