@@ -260,7 +260,7 @@ public final class ArmsAlongBeam {
         if (v < 0) {
             return refuse(BELOW);
         }
-        if (v > LAST_ROW || told >= numbers.length) {
+        if (v > LAST_ROW || told < 0 || told >= numbers.length) {
             return refuse(ROOM);
         }
         numbers[told] = v;
@@ -460,12 +460,12 @@ public final class ArmsAlongBeam {
 
         int handOn(int arm, int hand) {
             int place = 2 * arm + hand;
-            return hasArm(arm) && isHand(hand) && place < hands.length ? hands[place] : NONE;
+            return hasArm(arm) && isHand(hand) && place >= 0 && place < hands.length ? hands[place] : NONE;
         }
 
         void putHand(int arm, int hand, int joint) {
             int place = 2 * arm + hand;
-            if (hasArm(arm) && isHand(hand) && place < hands.length) {
+            if (hasArm(arm) && isHand(hand) && place >= 0 && place < hands.length) {
                 hands[place] = joint;
             }
         }
@@ -680,7 +680,7 @@ public final class ArmsAlongBeam {
         }
 
         boolean tellArm(int kind, int one, int other) {
-            if (arms >= kinds.length || kind < 0 || kind >= REACHES.length) {
+            if (arms < 0 || arms >= kinds.length || kind < 0 || kind >= REACHES.length) {
                 return false;
             }
             if (!isFree(one) || !isFree(other) || one == other || Math.abs(one - other) > REACHES[kind]) {
@@ -735,7 +735,7 @@ public final class ArmsAlongBeam {
 
         private void comeTo(int one, int other, int behind) {
             int place = JOINTS * one + other;
-            if (place >= 0 && place < steps.length && steps[place] == NONE && queued < queue.length) {
+            if (place >= 0 && place < steps.length && steps[place] == NONE && queued >= 0 && queued < queue.length) {
                 steps[place] = behind;
                 queue[queued] = place;
                 queued++;
@@ -779,7 +779,7 @@ public final class ArmsAlongBeam {
         }
 
         int append(int c) {
-            if (length < letters.length) {
+            if (length >= 0 && length < letters.length) {
                 letters[length] = c;
                 length++;
             }
